@@ -57,6 +57,7 @@ public final class CorsairsTest {
         Due.due("of several the least", Due.coastOf("e1;p001;p002;p006;p007").fewest(0), 1 | 4);
         Due.due("two of a high number ahead of three",
                 Due.coastOf("e2;p000;p003;p008;p004;p001;p006").fewest(0), 16 | 32);
+        Due.due("no fewer than all", Due.coastOf("e0;p000;p111;p222;p333").fewest(0), 15);
         Due.due("behind 9, all are worn to nothing", Due.coastOf("e9;p999;p009;d555").fewest(9), 2);
     }
 
@@ -80,6 +81,7 @@ public final class CorsairsTest {
         Due.due("pass 3 is TAKEN", x.voyages(1, 1, 2, 0, 7, 13), 3);
         Due.due("no pass 4", x.voyages(1, 1, 2, 0, 7, 14), -9);
         Due.due("no pass 5", x.voyages(1, 1, 2, 0, 7, 15), -9);
+        Due.due("a first pair that was not GOOD", x.voyages(1, 1, 2, 10, 2, 3), 0);
         Due.due("let go by 333 and 900", x.voyages(9, 1, 2, 0, 7, 0), 5);
         Due.due("first TAKEN by 333 and 900", x.voyages(9, 1, 2, 0, 7, 2), 5);
         Due.due("none of those was GOOD", x.voyages(9, 1, 2, 0, 7, 3), 0);
@@ -173,6 +175,9 @@ public final class CorsairsTest {
         Due.due("a PASS below 0", x.voyages(1, 2, 2, 0, 3, 1), -1);
         Due.due("put", x.put(2, 5, 99), 1);
         Due.due("no PASS ahead of no MONTHS", x.voyages(1, 2, 2, 0, 3, 1), -1);
+        Due.due("the first pair is looked at", x.voyages(1, 2, 2, 4, 1, 1), -1);
+        Due.due("put", x.put(2, 4, 0), 1);
+        Due.due("the first pair is looked at", x.voyages(1, 2, 2, 4, 1, 1), -2);
         Due.due("only the pairs that are told", x.voyages(1, 2, 2, 0, 2, 1), 1);
         Due.due("a set that is none ahead of pairs", x.voyages(16, 2, 2, 0, 3, 1), -2);
     }

@@ -74,6 +74,7 @@ public final class HalvesTest {
         Due.due("match names no FAULTS", x.fault(), Due.SIZE);
         WavePass y = Due.coastOf("e9;p000;p003;p000");
         Due.due("the least of two equal ones", y.match(2, 0), 0);
+        Due.due("worn to nothing", Due.coastOf("e2;p333;p444").match(0, 9), -9);
     }
 
     private static void last() {
@@ -121,6 +122,8 @@ public final class HalvesTest {
         WavePass x = Due.coastOf("e0;p001;p000;p002");
         Due.makeFault(x);
         Due.due("most", x.most(), 7);
+        Due.due("letGo", x.letGo(7, 0), 7);
+        Due.due("most behind another call", x.most(), 7);
         Due.due("most names no FAULTS", x.fault(), Due.SIZE);
     }
 }
