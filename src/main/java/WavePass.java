@@ -196,7 +196,7 @@ public final class WavePass {
         int taken = told.takenBy(shore, set);
         switch (what) {
             case ASK_LET_GO: return told.howMany() - Integer.bitCount(taken);
-            case ASK_TAKEN: return taken == 0 ? NONE : Integer.numberOfTrailingZeros(taken);
+            case ASK_TAKEN: return told.firstOf(taken);
             case ASK_GOOD: return Integer.bitCount(taken & told.goodOnes(shore));
             default: return howOften(taken, what - ASK_OF_PASS);
         }
@@ -833,6 +833,15 @@ public final class WavePass {
                 set |= bitIf((shore.fitting(pass[k], months[k]) & held) == 0, k);
             }
             return set;
+        }
+
+        int firstOf(int set) {
+            for (int k = 0; k < pairs; k++) {
+                if ((set & 1 << k) != 0) {
+                    return k;
+                }
+            }
+            return NONE;
         }
 
         int goodOnes(Coast shore) {

@@ -90,9 +90,9 @@ public final class FittedTest {
     private static void edgesOfBothHalves() {
         WavePass x = Due.coastOf("e4;p003;p999");
         Due.due("reading of its own halves", x.reading(0, 0, 5, true), 0);
-        Due.due("00x behind 5 is OFF by 5 at most: by 4 or less of 0 .. 4", x.edges(0, 2), 31);
-        Due.due("reading that it did not fit", x.back(1), 0);
-        Due.due("reading of its own halves", x.reading(0, 0, 5, false), 0);
+        Due.due("00x behind 5 is OFF by x, by 5 at most: 0 to 4", x.edges(0, 2), 31);
+        Due.due("back", x.back(1), 0);
+        Due.due("reading that they did not fit", x.reading(0, 0, 5, false), 0);
         Due.due("5 to 9", x.edges(0, 2), 1023 - 31);
     }
 
