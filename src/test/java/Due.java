@@ -7,14 +7,28 @@ final class Due {
 
     private static int asked = 0;
     private static int wrong = 0;
+    private static String sentence = "";
 
     private Due() { }
+
+    /** The words of the document that the answers asked from here on hold; they stand ahead of each that is wrong. */
+    static void says(String words) {
+        sentence = "\"" + words + "\": ";
+    }
 
     static void due(String call, long got, long want) {
         asked++;
         if (got != want) {
             wrong++;
-            System.out.println(call + " answered " + got + ", due is " + want);
+            System.out.println(sentence + call + " answered " + got + ", due is " + want);
+        }
+    }
+
+    static void dueSame(String what, String got, String want) {
+        asked++;
+        if (!got.equals(want)) {
+            wrong++;
+            System.out.println(sentence + what + " is " + got + ", due is " + want);
         }
     }
 

@@ -2,7 +2,8 @@ import java.util.Random;
 
 /** Promises 1 to 32 by chance: long runs of calls, each answer held against that of Model. */
 public final class ModelTest {
-    private static final int RUNS = 3000, CALLS = 512, CALL_KINDS = 31;
+    // The last calls of a run come many at once, and no object is good for more than 512.
+    private static final int RUNS = 3500, CALLS = 440, CALL_KINDS = 31;
     private static final int[] WILD = {Integer.MIN_VALUE, -61, -2, -1, 7, 10, 16, 21, 61, 64, Integer.MAX_VALUE};
 
     private final Random random;
