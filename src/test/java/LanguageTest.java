@@ -18,14 +18,7 @@ import java.util.regex.Pattern;
 /** The document's face and the rules of LANGUAGE.md, as far as they can be read off the class and its text. */
 public final class LanguageTest {
     private static final Path SOURCE = Path.of("src/main/java/WavePass.java");
-    private static final String[] FACE = {
-        "int coast(int,int,int,int)", "int ofPass(int,int)", "int trim(int,int,int)", "int slack(int)",
-        "int worn(int,int,int)", "int off(int,int,int)", "int fits(int,int)", "int match(int,int)", "int last(int)",
-        "int alike(int)", "int most()", "int letGo(int,int)", "int fewest(int)",
-        "int voyages(int,int,int,int,int,int)", "int reading(int,int,int,boolean)", "int back(int)",
-        "int edges(int,int)", "int kinds(int)", "int slacks()", "long odds(int,int,int)", "int sheet(int,int,int)",
-        "int lose(int)", "int put(int,int,int)", "long cell(int,int,int)", "int copy(int,int,int,int,int)",
-        "int tell(int)", "int seal(int)", "int as(int,int)", "int trace()", "int fault()", "int many(int)"};
+    private static final Set<String> FACE = new TreeSet<>(Document.methods());
 
     private LanguageTest() { }
 
@@ -59,8 +52,8 @@ public final class LanguageTest {
                 seen.add(m.getReturnType() + " " + m.getName() + "(" + String.join(",", types) + ")");
             }
         }
-        Set<String> face = new TreeSet<>(Arrays.asList(FACE));
-        rule("the methods are those of the face, not " + seen, seen.equals(face));
+        Due.due("methods that the document's face tells", FACE.size(), 31);
+        rule("the methods are those of the face, not " + seen, seen.equals(FACE));
     }
 
     private static void constants() throws IllegalAccessException {
@@ -72,14 +65,15 @@ public final class LanguageTest {
                 seen.add(f.getType() + " " + f.getName() + " " + f.get(null));
             }
         }
-        rule("the constants are those of the face, not " + seen, seen.equals(new TreeSet<>(Arrays.asList(
-            "int UNKNOWN -1", "int OUTSIDE -2", "int STATE -3", "int FULL -4", "int NONE -9",
-            "long LOST " + Long.MIN_VALUE))));
+        Due.due("constants that the document's face tells", Document.constants().size(), 6);
+        rule("the constants are those of the face, not " + seen, seen.equals(new TreeSet<>(Document.constants())));
     }
 
     private static void members() {
         Class<?>[] inside = WavePass.class.getDeclaredClasses();
         rule("at most twelve classes", inside.length < 12);
+        rule("no class without a name", Arrays.stream(inside).noneMatch(one -> one.isAnonymousClass()
+            || one.isLocalClass() || one.getSimpleName().isEmpty()) && !isClass("WavePass$1"));
         List<Class<?>> all = new ArrayList<>(Arrays.asList(inside));
         all.add(WavePass.class);
         for (Class<?> one : all) {
@@ -90,6 +84,10 @@ public final class LanguageTest {
             }
             membersOf(one);
         }
+    }
+
+    private static boolean isClass(String name) {
+        return WavePass.class.getResource(name + ".class") != null;
     }
 
     private static void membersOf(Class<?> one) {
@@ -130,7 +128,7 @@ public final class LanguageTest {
         }
         String code = withoutComments(new String(bytes, StandardCharsets.US_ASCII));
         String[] words = {"throw", "throws", "try", "catch", "finally", "synchronized", "assert", "package", "protected",
-            "volatile", "transient", "native", "equals", "hashCode", "toString", "Object", "Random", "Thread", "Exception"};
+            "volatile", "transient", "native", "while", "do", "instanceof", "String", "float", "double", "equals", "hashCode", "toString", "Object", "Random", "Thread", "Exception"};
         for (String word : words) {
             rule("no '" + word + "'", !Pattern.compile("\\b" + word + "\\b").matcher(code).find());
         }
@@ -143,6 +141,11 @@ public final class LanguageTest {
         }
         library(code);
         lengths(code);
+        loops(code);
+        Shape shape = new Shape(code);
+        depths(shape);
+        makes(shape, code);
+        headings(new String(bytes, StandardCharsets.US_ASCII));
     }
 
     private static String withoutComments(String text) {
@@ -158,19 +161,53 @@ public final class LanguageTest {
         }
     }
 
-    /** A method begins with a line that ends in a brace behind its parameters, and ends at its own depth. */
     private static void lengths(String code) {
-        String[] lines = code.split("\n");
-        for (int i = 0; i < lines.length; i++) {
-            Matcher m = Pattern.compile("^( {4}| {8})[a-zA-Z].*\\) \\{$").matcher(lines[i]);
-            boolean begins = m.find() && !lines[i].trim().startsWith("if") && !lines[i].trim().startsWith("for");
-            if (begins) {
-                int end = i;
-                while (end < lines.length && !lines[end].equals(m.group(1) + "}")) {
-                    end++;
-                }
-                rule(lines[i].trim() + " is short", end - i <= 60);
+        for (Shape.Method one : new Shape(code).methods) {
+            rule(one.name() + " is short", one.lines() <= 60);
+        }
+    }
+
+    /** Every loop counts against a bound that its own line tells. */
+    private static void loops(String code) {
+        Matcher all = Pattern.compile("\\bfor \\((.*)\\) \\{").matcher(code);
+        int found = 0;
+        while (all.find()) {
+            found++;
+            rule("for (" + all.group(1) + ") counts up or down to a bound", all.group(1).matches(
+                "int (\\w+) = [^;]+; (\\1 <=? [^;]+; \\1\\+\\+|\\1 >=? [^;]+; \\1--)"));
+        }
+        Due.due("loops", Pattern.compile("\\bfor\\b").matcher(code).results().count(), found);
+    }
+
+    private static void depths(Shape shape) {
+        for (Shape.Method one : shape.methods) {
+            int depth = shape.depth(one.name(), 0);
+            rule(one.name() + " goes at most eight deep and never comes to itself, but is " + depth, depth <= 8);
+        }
+    }
+
+    /** What a call makes is counted; all that this class needs is made with the object. */
+    private static void makes(Shape shape, String code) {
+        for (Shape.Method one : shape.methods) {
+            rule(one.name() + " makes no object and no array", one.name().equals("WavePass")
+                || !Pattern.compile("\\bnew\\b|\\.clone\\(|\\bcopyOf").matcher(one.body()).find());
+        }
+        rule("no text is made", code.indexOf('"') < 0);
+    }
+
+    /** The headings of the interface stand ahead of the calls for which the document tells them. */
+    private static void headings(String text) {
+        Due.due("headings that the document tells", Document.parts().size(), 5);
+        for (Document.Part part : Document.parts()) {
+            int from = text.indexOf("// " + part.heading() + "\n");
+            rule("the heading " + part.heading(), from >= 0);
+            int next = text.indexOf("// ---- ", Math.max(from, 0) + 1);
+            List<String> under = new ArrayList<>();
+            Matcher m = Pattern.compile("public (?:int|long) (\\w+)\\(").matcher(text.substring(Math.max(from, 0), next));
+            while (m.find()) {
+                under.add(m.group(1));
             }
+            Due.dueSame("calls under " + part.heading(), under.toString(), part.calls().toString());
         }
     }
 }
