@@ -11,8 +11,6 @@ import java.util.regex.MatchResult;
 import java.util.regex.Matcher;
 import java.util.regex.Pattern;
 import java.util.stream.Stream;
-import javax.tools.JavaCompiler;
-import javax.tools.ToolProvider;
 
 /** What README.md says of the class and of the tests is so: its Java is compiled and run. */
 public final class ReadmeTest {
@@ -25,7 +23,7 @@ public final class ReadmeTest {
 
     private ReadmeTest() { }
 
-    public static void main(String[] args) throws IOException, ReflectiveOperationException {
+    public static void main(String[] args) throws IOException, InterruptedException, ReflectiveOperationException {
         String readme = Document.read("README.md");
         runs(readme);
         calls(readme);
@@ -40,7 +38,7 @@ public final class ReadmeTest {
 
     // ---- its Java
 
-    private static void runs(String readme) throws IOException, ReflectiveOperationException {
+    private static void runs(String readme) throws IOException, InterruptedException, ReflectiveOperationException {
         StringBuilder code = new StringBuilder();
         JAVA.matcher(readme).results().forEach(block -> code.append(block.group(1)));
         List<MatchResult> told = ANSWERED.matcher(code).results().toList();
@@ -62,15 +60,15 @@ public final class ReadmeTest {
         return named.containsKey(answer) ? named.get(answer) : Long.parseLong(answer);
     }
 
-    private static List<?> answersOf(String code) throws IOException, ReflectiveOperationException {
+    private static List<?> answersOf(String code)
+            throws IOException, InterruptedException, ReflectiveOperationException {
         Path place = Files.createTempDirectory("readme");
         Path file = place.resolve("ReadmeRuns.java");
         Files.writeString(file, "public final class ReadmeRuns {\npublic static java.util.List<Long> run() {\n"
             + "java.util.List<Long> got = new java.util.ArrayList<>();\n"
             + ANSWERED.matcher(code).replaceAll("got.add((long) $1); //") + "return got;\n}\n}\n");
-        JavaCompiler javac = ToolProvider.getSystemJavaCompiler();
-        int failed = javac.run(null, null, null, "-cp", System.getProperty("java.class.path"), "-d", place.toString(),
-            file.toString());
+        int failed = new ProcessBuilder("javac", "-cp", System.getProperty("java.class.path"), "-d", place.toString(),
+            file.toString()).inheritIO().start().waitFor();
         Due.due("javac of the Java of README.md", failed, 0);
         try (URLClassLoader loader = new URLClassLoader(new URL[] {place.toUri().toURL()})) {
             return failed != 0 ? new ArrayList<>()
@@ -94,7 +92,8 @@ public final class ReadmeTest {
     private static void answers(String readme) {
         for (String constant : Document.constants()) {
             String[] words = constant.split(" ");
-            tells(readme, words[1].equals("LOST") ? "`LOST` (`Long.MIN_VALUE`)" : "| `" + words[1] + "` | " + words[2] + " | ");
+            tells(readme, words[1].equals("LOST") ? "`LOST` (`Long.MIN_VALUE`)"
+                : "| `" + words[1] + "` | " + words[2] + " | ");
         }
         for (int fault = 1; fault <= 4; fault++) {
             tells(readme, "| " + FAULTS[fault - 1] + ", fault " + fault + " | " + (-10 - fault) + " | ");
@@ -109,7 +108,8 @@ public final class ReadmeTest {
         }
         Matcher named = Pattern.compile("`([A-Z]\\w*Test)`").matcher(readme);
         while (named.find()) {
-            Due.due(named.group(1) + " is there", Files.exists(Path.of("src/test/java", named.group(1) + ".java")) ? 1 : 0, 1);
+            Path file = Path.of("src/test/java", named.group(1) + ".java");
+            Due.due(file + " is there", Files.exists(file) ? 1 : 0, 1);
         }
         tells(readme, ".ci/run");
         Due.due(".ci/run is there", Files.isExecutable(Path.of(".ci/run")) ? 1 : 0, 1);
