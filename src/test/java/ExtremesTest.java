@@ -7,7 +7,7 @@ import java.util.Map;
 import java.util.TreeSet;
 
 /**
- * No call ever throws, for any arguments: each call by all its arguments at once from the least int to the greatest,
+ * No call ever throws: each by chosen values of all its arguments at once, the least and the greatest int among them,
  * on objects of several kinds; each answer, and fault() behind it, held against that of Model.
  */
 public final class ExtremesTest {
